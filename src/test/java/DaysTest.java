@@ -5,6 +5,7 @@ public final class DaysTest {
         day();
         ordersCarriedOut();
         trappedAfter();
+        whatWouldBe();
         daysUntilHeard();
         ordersInTheirOrder();
         orderedMoves();
@@ -77,6 +78,17 @@ public final class DaysTest {
         x.passDays(5);
         Checks.due("trapped() is what was told", x.trapped(), 4);
         Checks.due("trappedAfter(1): from this day on", x.trappedAfter(1), 5);
+    }
+
+    /** What would be follows pigeons as well: their noise, and their flights. */
+    private static void whatWouldBe() {
+        RoofPigeons x = Checks.taught("roofs 2 1 2; pigeon a at 0 loud 3; pigeon b at 2 loud 4; build 0 when noise of a = 4; build 2 when noise of b = 3;");
+        Checks.due("trappedAfter(4) with noise", x.trappedAfter(4), 5);
+        RoofPigeons y = Checks.taught("roofs 5 1 9 1 5; pigeon a at 1 loud 1; pigeon b at 4 loud 1; build 1 when place of a = 0; build 1 when place of a = 1;");
+        Checks.due("trappedAfter(1) with flights", y.trappedAfter(1), 7);
+        Checks.due("placeOf(0): nothing is changed", y.placeOf(0), 1);
+        RoofPigeons z = Checks.taught("roofs 5 1 1 9 1; pigeon a at 1 loud 1; pigeon b at 4 loud 1; build 0 when day < 4; hop a right when day = 2;");
+        Checks.due("daysUntilHeard(1, 0): a flies to 0, and hops to 3", z.daysUntilHeard(1, 0), 3);
     }
 
     private static void daysUntilHeard() {
@@ -305,6 +317,10 @@ public final class DaysTest {
     }
 
     private static void joinedTests() {
+        Checks.due("not, alone", Checks.taught("roofs 1; build 0 when not 1 = 1;").passDays(1), 0);
+        Checks.due("not, alone", Checks.taught("roofs 1; build 0 when not 1 = 2;").passDays(1), 1);
+        Checks.due("or, alone", Checks.taught("roofs 1; build 0 when 1 = 2 or 1 = 1;").passDays(1), 1);
+        Checks.due("not, and or", Checks.taught("roofs 1; build 0 when not 1 = 1 or not 2 = 2;").passDays(1), 0);
         String t = "1 = 1";
         String f = "1 = 2";
         dueHolds(t + " and " + t, true);

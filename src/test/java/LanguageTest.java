@@ -1,3 +1,7 @@
+import java.util.LinkedHashSet;
+import java.util.Random;
+import java.util.Set;
+
 /** Promises 1 to 5: a new object, feed, trim, teach and errorAt. */
 public final class LanguageTest {
     public static void main(String[] args) {
@@ -5,6 +9,7 @@ public final class LanguageTest {
         feed();
         trim();
         teachTakesThePlace();
+        teachManyTimes();
         teachWithErrorKeepsAll();
         errorAt();
         tokens();
@@ -117,6 +122,21 @@ public final class LanguageTest {
         Checks.due("passDays(2) without orders", x.passDays(2), 0);
     }
 
+    private static void teachManyTimes() {
+        RoofPigeons x = new RoofPigeons();
+        for (int k = 0; k < 40; k++) {
+            // 3, 2 * 190 + 2, and 8 tokens: the sum is 190 + k, over 2 towers
+            String text = "roofs 1 1; build " + k + Checks.times(190, "+1") + "; build 1 when day=0;";
+            Checks.due("teach() number " + 3 * k, Checks.teach(x, text), 0);
+            Checks.due("passDays(2)", x.passDays(2), 3);
+            Checks.due("heightOf(0)", x.heightOf(0), k % 2 == 0 ? 3 : 1);
+            Checks.due("heightOf(1)", x.heightOf(1), k % 2 == 0 ? 2 : 4);
+            Checks.due("teach() with an error 1", Checks.teach(x, text + "hop"), 1);
+            Checks.due("teach() with an error 3", Checks.teach(x, "roofs 2; hop a left; build 0 when day = 0;"), 3);
+            Checks.due("passDays(1)", x.passDays(1), 1);
+        }
+    }
+
     private static void teachWithErrorKeepsAll() {
         String[] wrong = {
             "", "roofs 1 2; build 0; build 0; build", "roofs 9; pigeon a at 0 loud 1; pigeon a at 0 loud 1;",
@@ -169,6 +189,7 @@ public final class LanguageTest {
         Checks.due("placeOf(0)", x.placeOf(0), 1);
         x = Checks.taught("roofs 1 2; pigeon roof at 0 loud 1; pigeon days at 0 loud 2; pigeon x0 at 0 loud 3; pigeon roofs1 at 0 loud 4;");
         Checks.due("names that hold keywords: pigeons()", x.pigeons(), 4);
+        namesAreToldApart();
         Checks.dueError("roofs3;", 1, 0);
         Checks.dueError("roofs 1 2; pigeon abcdefghijk at 0 loud 1;", 1, 18);
         Checks.dueError("roofs 1 2; pigeon abcdefghij0 at 0 loud 1;", 1, 18);
@@ -198,6 +219,30 @@ public final class LanguageTest {
         }
     }
 
+    /** Eight names at once, many times, each of one letter or of two and three signs. */
+    private static void namesAreToldApart() {
+        String signs = "abcdefghijklmnopqrstuvwxyz0123456789";
+        Random random = new Random(7);
+        RoofPigeons x = new RoofPigeons();
+        for (int times = 0; times < 4000; times++) {
+            Set<String> names = new LinkedHashSet<>();
+            while (names.size() < 8) {
+                StringBuilder name = new StringBuilder().append(signs.charAt(random.nextInt(26)));
+                for (int more = random.nextInt(3); more > 0; more--) {
+                    name.append(signs.charAt(random.nextInt(36)));
+                }
+                if (!Set.of("at", "of", "or", "and", "not", "min", "max", "hop", "day", "dry").contains(name.toString())) {
+                    names.add(name.toString());
+                }
+            }
+            StringBuilder text = new StringBuilder("roofs 1;");
+            for (String name : names) {
+                text.append("pigeon ").append(name).append(" at 0 loud 1;");
+            }
+            Checks.due("teach() of " + text, Checks.teach(x, text.toString()), 0);
+        }
+    }
+
     private static void errorOneInLines() {
         Checks.dueError("", 1, 0);
         Checks.dueError("  \n ", 1, 4);
@@ -215,6 +260,9 @@ public final class LanguageTest {
         Checks.dueError("roofs 1; a;", 1, 9);
         Checks.dueError("roofs 1; when 1 = 1;", 1, 9);
         Checks.dueError("roofs 1; pigeon", 1, 15);
+        Checks.dueError("roofs 1; pigeon;", 1, 15);
+        Checks.dueError("roofs 1; pigeon a;", 1, 17);
+        Checks.dueError("roofs 1; pigeon a at;", 1, 20);
         Checks.dueError("roofs 1; pigeon day at 0 loud 1;", 1, 16);
         Checks.dueError("roofs 1; pigeon 5 at 0 loud 1;", 1, 16);
         Checks.dueError("roofs 1; pigeon a loud 1 at 0;", 1, 18);
@@ -254,6 +302,7 @@ public final class LanguageTest {
     private static void errorOneInTests() {
         String head = "roofs 1 2; pigeon a at 0 loud 1; build 0 when ";
         int at = head.length();
+        Checks.dueError(head + "1 <;", 1, at + 3);
         Checks.dueError(head + "1 < 2 < 3;", 1, at + 6);
         Checks.dueError(head + "1 < 2 and;", 1, at + 9);
         Checks.dueError(head + "1 < 2 or;", 1, at + 8);
@@ -297,6 +346,12 @@ public final class LanguageTest {
         Checks.dueError(head + "(1, 2);", 1, at + 2);
         Checks.dueError(head + "1, 2;", 1, at + 1);
         Checks.dueError(head + "min 1, 2;", 1, at + 4);
+        Checks.dueError(head + "min;", 1, at + 3);
+        Checks.dueError(head + "min(;", 1, at + 4);
+        Checks.dueError(head + "min(1;", 1, at + 5);
+        Checks.dueError(head + "min(1,;", 1, at + 6);
+        Checks.dueError(head + "min(1,2;", 1, at + 7);
+        Checks.dueError(head + "height;", 1, at + 6);
         Checks.dueError(head + "min(1);", 1, at + 5);
         Checks.dueError(head + "min(1, 2, 3);", 1, at + 8);
         Checks.dueError(head + "max(, 2);", 1, at + 4);
@@ -412,6 +467,8 @@ public final class LanguageTest {
         RoofPigeons x = Checks.taught(text.toString());
         Checks.due("8 pigeons", x.pigeons(), 8);
         Checks.dueError(text + "pigeon p8 at 1 loud 1;", 4, text.length() + 7);
+        Checks.due("8 pigeons with an order each", Checks.teach(x, text + "hop p0 left; hop p7 left; build noise of p7 when hears p0 p7;"), 0);
+        Checks.dueError(text + "hop p8 left;", 3, text.length() + 4);
         Checks.dueError(text + "pigeon p8 at 9 loud 0;", 4, text.length() + 7);
         String orders = "roofs 1 2; pigeon a at 0 loud 1;" + Checks.times(4, "hop a left;glide a left;build 0;wear 0;");
         Checks.due("16 orders", Checks.teach(new RoofPigeons(), orders), 0);

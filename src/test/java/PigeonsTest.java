@@ -1,3 +1,6 @@
+import java.util.ArrayList;
+import java.util.List;
+
 /** Promises 7, 21 to 29, 37 and 39: pigeons, their noise, and hopping and gliding by hand. */
 public final class PigeonsTest {
     /** a is heard on 0 to 1, b on 0 to 2, c and d on 2 to 4. */
@@ -126,6 +129,8 @@ public final class PigeonsTest {
 
     private static void quietest() {
         Checks.due("quietest()", Checks.taught(CITY).quietest(), 1);
+        Checks.due("quietest(): the first",
+                Checks.taught("roofs 1; pigeon a at 0 loud 3; pigeon b at 0 loud 2; pigeon c at 0 loud 2;").quietest(), 0);
         Checks.due("quietest() without any", Checks.taught("roofs 1 2;").quietest(), -1);
         Checks.due("quietest() of one", Checks.taught("roofs 1 2; pigeon a at 0 loud 9;").quietest(), 0);
         Checks.due("quietest() of the same",
@@ -179,6 +184,9 @@ public final class PigeonsTest {
         RoofPigeons y = Checks.taught("roofs 1 2 6 2 1; pigeon a at 0 loud 1; pigeon b at 1 loud 2; pigeon c at 1 loud 3;");
         Checks.due("quietestTower(0): not its own one", y.quietestTower(0), 3);
         Checks.due("quietestTower(1)", y.quietestTower(1), 3);
+        Checks.due("quietestTower(0): of several the smallest number",
+                Checks.taught("roofs 1 4 4 1; pigeon a at 3 loud 1; pigeon b at 0 loud 1; pigeon c at 3 loud 2; pigeon d at 0 loud 3;")
+                        .quietestTower(0), 2);
         Checks.due("quietestTower() of one", Checks.taught("roofs 1 2; pigeon a at 1 loud 1;").quietestTower(0), 0);
         Checks.noIndex("quietestTower(-1)", () -> x.quietestTower(-1));
         Checks.noIndex("quietestTower(4)", () -> x.quietestTower(4));
@@ -207,5 +215,31 @@ public final class PigeonsTest {
         }
         Checks.due("digest()", x.digest(), d);
         Checks.due("digest() again", x.digest(), d);
+        String[] texts = {
+            CITY, "roofs 20 1 20 1 4;", "roofs 2 9 1 9 3 3; pigeon a at 0 loud 2; pigeon b at 2 loud 3; pigeon c at 4 loud 4; hop a right; build 4;",
+            "roofs 1 2 6 2 1; pigeon a at 0 loud 1; pigeon b at 1 loud 2; pigeon c at 1 loud 3; wear 2;",
+        };
+        for (String text : texts) {
+            RoofPigeons y = Checks.taught(text);
+            Checks.due("digest() of " + text, y.digest(), digestOf(y));
+            y.passDays(2);
+            Checks.due("digest() two days on of " + text, y.digest(), digestOf(y));
+        }
+    }
+
+    private static long digestOf(RoofPigeons x) {
+        List<Integer> numbers = new ArrayList<>(List.of(x.towers(), x.pigeons(), x.day(), x.ordersCarriedOut(), x.trapped(),
+                x.wetTowers(), x.widestPool(), x.highest(), x.seenFromLeft(), x.seenFromRight(), x.quietest(), x.bestToBuild()));
+        for (int t = 0; t < x.towers(); t++) {
+            numbers.addAll(List.of(x.heightOf(t), x.nextTallerLeft(t), x.nextTallerRight(t), x.waterOn(t), x.pigeonsOn(t), x.heardOn(t)));
+        }
+        for (int p = 0; p < x.pigeons(); p++) {
+            numbers.addAll(List.of(x.placeOf(p), x.loudnessOf(p), x.noiseAt(p), x.quietestTower(p)));
+        }
+        long d = 1061;
+        for (int number : numbers) {
+            d = d * 31 + number;
+        }
+        return d;
     }
 }

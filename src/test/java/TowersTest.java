@@ -21,6 +21,7 @@ public final class TowersTest {
         trappedWith();
         bestToBuild();
         meanHeight();
+        asManyAsCanBe();
         Checks.end();
     }
 
@@ -197,6 +198,8 @@ public final class TowersTest {
 
     private static void bestToBuild() {
         Checks.due("bestToBuild()", Checks.taught("roofs 3 0 2;").bestToBuild(), 2);
+        // 3 0 0 3 0 4 traps 9, 2 0 0 4 0 4 only 8, more than the 7 of now
+        Checks.due("bestToBuild(): the most, not the last that is more", Checks.taught("roofs 2 0 0 3 0 4;").bestToBuild(), 0);
         Checks.due("bestToBuild() of several", Checks.taught("roofs 1 0 1;").bestToBuild(), 0);
         Checks.due("bestToBuild() of a plain", Checks.taught("roofs 4 4 4 4;").bestToBuild(), 0);
         Checks.due("bestToBuild() where it loses", Checks.taught("roofs 20 0 20;").bestToBuild(), 1);
@@ -217,5 +220,38 @@ public final class TowersTest {
         RoofPigeons x = Checks.taught("roofs 1 2 2;");
         x.wear(0);
         Checks.due("meanHeight() behind wear", x.meanHeight(), 4.0 / 3);
+    }
+
+    /** 16 towers, with 8 pigeons and 16 orders: each row is full. */
+    private static void asManyAsCanBe() {
+        StringBuilder text = new StringBuilder("roofs 1 2 3 4 5 6 7 8 8 7 6 5 4 3 2 20;");
+        for (int k = 0; k < 8; k++) {
+            text.append("pigeon p").append(k).append(" at ").append(2 * k + 1).append(" loud 1;");
+        }
+        for (int k = 0; k < 16; k++) {
+            text.append("build ").append(k).append(" when place of p7 = 15;");
+        }
+        RoofPigeons x = Checks.taught(text.toString());
+        Checks.due("trapped() of 16", x.trapped(), 21);
+        Checks.due("wetTowers() of 16", x.wetTowers(), 6);
+        Checks.due("widestPool() of 16", x.widestPool(), 6);
+        Checks.due("highest() of 16", x.highest(), 15);
+        Checks.due("seenFromLeft() of 16", x.seenFromLeft(), 9);
+        Checks.due("seenFromRight() of 16", x.seenFromRight(), 1);
+        Checks.due("nextTallerRight(14)", x.nextTallerRight(14), 15);
+        Checks.due("nextTallerLeft(15)", x.nextTallerLeft(15), -1);
+        Checks.due("pigeonsOn(15)", x.pigeonsOn(15), 1);
+        Checks.due("heardOn(15)", x.heardOn(15), 5);
+        Checks.due("quietest() of 8", x.quietest(), 3);
+        Checks.due("bestToBuild() of 16", x.bestToBuild(), 7);
+        Checks.due("meanHeight() of 16", x.meanHeight(), 91.0 / 16);
+        Checks.noState("build(15)", () -> x.build(15));
+        Checks.due("passDays(1): all but the highest", x.passDays(1), 15);
+        Checks.due("placeOf(4): on 8, of 7 and 8 the one that is dry", x.placeOf(4), 8);
+        Checks.due("placeOf(7)", x.placeOf(7), 15);
+        Checks.due("passDays(30)", x.passDays(30), 214);
+        Checks.due("meanHeight() of 20 on each", x.meanHeight(), 20.0);
+        Checks.due("bestToBuild() of 20 on each", x.bestToBuild(), -1);
+        Checks.due("quietestTower(7)", x.quietestTower(7), 0);
     }
 }
