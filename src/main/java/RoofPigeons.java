@@ -701,7 +701,11 @@ public final class RoofPigeons {
 
         /** Takes a token behind which the depth is greater, if it may be. */
         private boolean takeDeeper(Kind kind, int depth) {
-            return depth < MOST_DEPTH && take(kind);
+            if (depth >= MOST_DEPTH || here != kind) {
+                return false;
+            }
+            skip();
+            return true;
         }
 
         private void note(int number) {
@@ -863,7 +867,14 @@ public final class RoofPigeons {
                     return takeDeeper(kind, depth) && takeTest(depth + 1) && take(Kind.CLOSE_TEST);
                 case HEARS:
                 case OVER:
-                    return takePair();
+                    skip();
+                    int first = takeKnownName();
+                    int second = first < 0 ? -1 : takeKnownName();
+                    if (second < 0) {
+                        return false;
+                    }
+                    plan.addStep(kind, first, second);
+                    return true;
                 case DRY:
                     skip();
                     if (!takeSum(depth)) {
@@ -874,18 +885,6 @@ public final class RoofPigeons {
                 default:
                     return takeComparison(depth);
             }
-        }
-
-        private boolean takePair() {
-            Kind kind = here;
-            skip();
-            int first = takeKnownName();
-            int second = first < 0 ? -1 : takeKnownName();
-            if (second < 0) {
-                return false;
-            }
-            plan.addStep(kind, first, second);
-            return true;
         }
 
         private boolean takeComparison(int depth) {
@@ -957,7 +956,13 @@ public final class RoofPigeons {
                     return true;
                 case NOISE:
                 case PLACE:
-                    return takePigeonValue();
+                    skip();
+                    int pigeon = take(Kind.OF) ? takeKnownName() : -1;
+                    if (pigeon < 0) {
+                        return false;
+                    }
+                    plan.addStep(kind, pigeon, 0);
+                    return true;
                 case MINUS:
                     if (!takeDeeper(kind, depth) || !takeValue(depth + 1)) {
                         return false;
@@ -973,17 +978,6 @@ public final class RoofPigeons {
                 default:
                     return false;
             }
-        }
-
-        private boolean takePigeonValue() {
-            Kind kind = here;
-            skip();
-            int pigeon = take(Kind.OF) ? takeKnownName() : -1;
-            if (pigeon < 0) {
-                return false;
-            }
-            plan.addStep(kind, pigeon, 0);
-            return true;
         }
 
         private boolean takeFunction(int depth) {
