@@ -8,6 +8,14 @@ final class Checks {
     private Checks() {
     }
 
+    static int done() {
+        return done;
+    }
+
+    static int wrong() {
+        return wrong;
+    }
+
     static void due(String call, Object got, Object want) {
         done++;
         if (!want.equals(got)) {
@@ -84,6 +92,15 @@ final class Checks {
         RoofPigeons x = new RoofPigeons();
         due("teach() of \"" + text + "\"", teach(x, text), error);
         due("errorAt() behind teach() of \"" + text + "\"", x.errorAt(), place);
+    }
+
+    /** Checks the error of a text, whose place is that of the @ in it, which itself is not fed. */
+    static void dueErrorAtMark(int error, String text) {
+        dueError(text.replace("@", ""), error, text.indexOf('@'));
+    }
+
+    static void dueNoError(String text) {
+        dueError(text, 0, -1);
     }
 
     static String times(int count, String text) {
